@@ -1,0 +1,95 @@
+import java.util.NoSuchElementException;
+import java.util.function.LongSupplier;
+
+/** What the tests share: feeding texts, and counting answers that are not as due. */
+final class Checks {
+    private static int asked = 0;
+    private static int wrong = 0;
+
+    private Checks() {
+    }
+
+    static void due(String call, long got, long want) {
+        asked++;
+        if (got != want) {
+            wrong++;
+            System.out.println(call + " answered " + got + ", due is " + want);
+        }
+    }
+
+    static void holds(String claim, boolean isSo) {
+        due(claim, isSo ? 1 : 0, 1);
+    }
+
+    /** The call throws NoSuchElementException, and just that count grows. */
+    static void missing(BoughtMondays x, String call, LongSupplier body) {
+        refused(x, call, body, NoSuchElementException.class, 0);
+    }
+
+    /** The call throws IllegalArgumentException, and just that count grows. */
+    static void argument(BoughtMondays x, String call, LongSupplier body) {
+        refused(x, call, body, IllegalArgumentException.class, 1);
+    }
+
+    private static void refused(BoughtMondays x, String call, LongSupplier body, Class<?> kind, int what) {
+        int before = x.status(what);
+        int otherBefore = x.status(1 - what);
+        Class<?> thrown = null;
+        try {
+            body.getAsLong();
+        } catch (RuntimeException e) {
+            thrown = e.getClass();
+        }
+        holds(call + " throws " + kind.getSimpleName() + " (it threw " + thrown + ")", thrown == kind);
+        due(call + " counted", x.status(what), before + 1);
+        due(call + " counted otherwise", x.status(1 - what), otherBefore);
+    }
+
+    /** Puts a text on an empty tape: how many bytes it has. */
+    static int feed(BoughtMondays x, String text) {
+        int n = text.length();
+        for (int i = 0; i < n; i += 20) {
+            int[] five = new int[5];
+            for (int k = 0; k < 20; k++) {
+                int sign = i + k < n ? text.charAt(i + k) : 0;
+                five[k / 4] = five[k / 4] << 8 | sign;
+            }
+            x.feed(five[0], five[1], five[2], five[3], five[4]);
+        }
+        return n;
+    }
+
+    static int town(BoughtMondays x, String text) {
+        return x.town(feed(x, text));
+    }
+
+    static int law(BoughtMondays x, String text) {
+        return x.law(feed(x, text));
+    }
+
+    static int work(BoughtMondays x, String text) {
+        return x.work(feed(x, text));
+    }
+
+    static int book(BoughtMondays x, String text) {
+        return x.book(feed(x, text));
+    }
+
+    static BoughtMondays made(String townText) {
+        BoughtMondays x = new BoughtMondays();
+        int answer = town(x, townText);
+        holds("the town " + townText + " is one (" + answer + " at " + x.fault() + ")", answer >= 0);
+        return x;
+    }
+
+    static String times(int n, String part) {
+        return part.repeat(n);
+    }
+
+    static void end(String test) {
+        System.out.println(test + ": " + asked + " answers, " + wrong + " not as due");
+        if (wrong != 0 || asked == 0) {
+            System.exit(1);
+        }
+    }
+}
