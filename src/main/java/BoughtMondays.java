@@ -1485,7 +1485,7 @@ public final class BoughtMondays {
         }
 
         boolean fallsNow(int task) {
-            return (done >> task & 1) == 0 && monday[task] == week;
+            return monday[task] == week && (done >> task & 1) == 0;
         }
 
         int openTasksOn(int day) {
@@ -1691,11 +1691,12 @@ public final class BoughtMondays {
         }
 
         private void fillBest() {
-            for (int set = 0; set < SETS; set++) {
+            int everyone = bitsBelow(town.persons);
+            for (int set = 0; set <= everyone; set++) {
                 best[town.duties * SETS + set] = 0;
             }
             for (int d = town.duties - 1; d >= 0; d--) {
-                for (int set = 0; set < SETS; set++) {
+                for (int set = 0; set <= everyone; set++) {
                     int most = best[(d + 1) * SETS + set];
                     for (int p = 0; p < town.persons; p++) {
                         most = Math.max(most, worthBy(d, p, set));

@@ -220,7 +220,7 @@ public final class TextsTest {
         lawFault("(((((( (1)))))))", -7, 7);
         lawFault("((((((least", -7, 6);
         lawFault("((((((lest", -9, 6);
-        lawFault("(((((most[(1),2])))))", -7, 11 - 1);
+        lawFault("(((((most[(1),2])))))", -7, 10);
         lawFault("(((((1)))))+((((((1))))))", 1, -1);
         lawFault("(((((1)))))+(((((((1)))))))", -7, 18);
         lawFault("least[(1),least[(1),least[(1),least[1,least[1,most[1,2]]]]]]", 1, -1);
