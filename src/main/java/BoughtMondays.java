@@ -1339,8 +1339,10 @@ public final class BoughtMondays {
                     return life.sellBack(number);
                 case LATER:
                     return life.putOff(number);
-                default:
+                case WEEK:
                     return life.passWeekByWork();
+                default:
+                    return false;
             }
         }
     }

@@ -174,6 +174,8 @@ public final class AskedTest {
         BoughtMondays y = Checks.made("person 0 0;duty 2;duty 2;can 0 0;can 0 1;");
         givers(y, 2, 0, -1);
         givers(Checks.made("person 0 0;person 0 0;duty 1;duty 1;can 0 0;can 1 0;can 0 1;can 1 1;"), 2, 0, 1);
+        Checks.town(y, "person 0 0;duty 2;can 0 0;");
+        givers(y, 2, 0);
         givers(Checks.made("person 0 0;"), 0);
         givers(Checks.made("duty 30;"), 0, -1);
         StringBuilder all = new StringBuilder();
@@ -231,9 +233,16 @@ public final class AskedTest {
         Checks.law(y, "99");
         // 999 and no more: ten cost 990
         skip(y, 0, 10, 1023);
-        Checks.law(y, "most[99 * (coins / 999), 99 - coins]");
+        Checks.law(y, "coins * 0 + 98 + coins / 999");
         Checks.due("999 coins", y.price(0), 99);
         skip(y, 0, 2, 3);
+        BoughtMondays z = Checks.made("person 10 0;person 0 0;duty 1;duty 1;can 0 0;can 1 0;can 0 1;");
+        // the prices are 8, 5, 5, 2: the second and third, or the first and fourth
+        Checks.law(z, "8 - (week + 1) / 2 * 3");
+        skip(z, 0, 4, 6);
+        Checks.law(z, "needed * 3");
+        skip(z, 0, 5, 7);
+        skip(z, 1, 5, 31);
     }
 
     private static void apart() {
@@ -273,6 +282,12 @@ public final class AskedTest {
         Checks.due("too few days", x.together(2, 0, 12), -1);
         Checks.due("none and four of eleven", x.together(0, 2, 11), 0);
         Checks.due("in no line", x.together(0, 3, 10), -1);
+        Checks.book(x, "0 60;1 71;2 59;3 70;");
+        Checks.due("one day too many", x.together(0, 1, 10), -1);
+        Checks.due("one day too many of the first", x.together(1, 0, 10), -1);
+        Checks.due("one day too few", x.together(3, 2, 10), -1);
+        Checks.due("one day too few of the first", x.together(2, 3, 10), -1);
+        Checks.due("none and all", x.together(0, 3, 10), 0);
         Checks.missing(x, "together(4, 4, 99)", () -> x.together(4, 4, 99));
         Checks.missing(x, "together(0, -1, 0)", () -> x.together(0, -1, 0));
         Checks.argument(x, "together(1, 1, 0)", () -> x.together(1, 1, 0));
@@ -463,6 +478,9 @@ public final class AskedTest {
         Checks.work(x, "again 60[week;];");
         Checks.due("all are done", x.crowd(0), -1);
         Checks.due("all are done", x.crowd(1), -1);
+        BoughtMondays y = Checks.made("person 0 0;task 0 7 1;");
+        Checks.due("one task", y.crowd(0), 7);
+        Checks.due("one task", y.crowd(1), 1);
         Checks.argument(x, "crowd(2)", () -> x.crowd(2));
         Checks.argument(x, "crowd(-1)", () -> x.crowd(-1));
     }
@@ -557,8 +575,18 @@ public final class AskedTest {
         Checks.argument(x, "year(0, 1, 0, -1, 0)", () -> x.year(0, 1, 0, -1, 0));
         Checks.argument(x, "year(0, 1, 0, 0, 5)", () -> x.year(0, 1, 0, 0, 5));
         Checks.argument(x, "year(0, 1, 0, 0, -1)", () -> x.year(0, 1, 0, 0, -1));
-        BoughtMondays y = Checks.made("duty 3;");
+        BoughtMondays y = Checks.made("person 9 0;person 9 0;duty 3;");
+        Checks.work(y, "buy 1;");
+        // by seed 1 person 1 is drawn to sell, by 11
+        Checks.due("11 is below 12", y.year(1, 1, 0, 12, 1), 14);
+        Checks.due("11 is not below 11", y.year(1, 1, 0, 11, 1), 13);
+        Checks.work(y, "week;");
+        Checks.due("lost by now", y.told(6), 3);
+        Checks.due("lost in it", y.year(1, 2, 0, 0, 2), 6);
+        Checks.town(y, "duty 3;");
+        Checks.law(y, "0");
         Checks.due("without persons weeks go by", y.year(1, 96, 16, 16, 2), 288);
+        Checks.due("without persons nobody buys", y.year(1, 96, 16, 16, 3), 0);
     }
 
     private static void span() {
@@ -578,6 +606,11 @@ public final class AskedTest {
             Checks.due("span done", x.span(seed, 20, 9, 12, 3, 2, 1), done);
             Checks.due("span of one", x.span(seed, 1, 9, 12, 3, 1, 0), x.year(seed, 9, 12, 3, 2));
         }
+        Checks.due("span of none lost", x.span(1, 3, 4, 0, 0, 1, 0), 0);
+        BoughtMondays y = Checks.made("person 0 0;duty 3;task 0 0 0;");
+        Checks.work(y, "week;");
+        Checks.due("span of one, the least", y.span(1, 1, 2, 0, 0, 0, 0), 6);
+        Checks.due("span of one, the most", y.span(1, 1, 2, 0, 0, 1, 0), 6);
         for (int what = 0; what <= 2; what++) {
             int w = what;
             Checks.argument(x, "span of no task", () -> x.span(1, 1, 1, 0, 0, w, 2));

@@ -164,6 +164,12 @@ public final class LivesTest {
         Checks.due("skipped", x.person(0, 3), 0);
         Checks.due("fines", x.person(0, 6), 0);
         Checks.due("undo()", x.undo(), -1);
+        Checks.work(x, "buy 2;week;buy 2;buy 0;week;");
+        Checks.work(x, "buy 2;week;");
+        Checks.due("skipped", x.person(2, 3), 3);
+        x.undo();
+        Checks.due("skipped by then", x.person(2, 3), 2);
+        Checks.due("skipped by then", x.person(0, 3), 1);
     }
 
     private static void images() {

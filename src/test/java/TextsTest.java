@@ -179,6 +179,11 @@ public final class TextsTest {
         Checks.due("a law of blanks", x.law(150), -9);
         Checks.due("it ends too early", x.fault(), 150);
         Checks.argument(x, "law(1)", () -> x.law(1));
+        Checks.feed(x, "55");
+        Checks.due("one byte of two", x.law(1), 1);
+        Checks.due("its price", x.price(0), 5);
+        Checks.feed(x, "weeks");
+        Checks.due("four bytes of five", x.law(4), 1);
         Checks.due("a law of 150 bytes", Checks.law(x, "1" + Checks.times(74, "+1") + " "), 1);
         Checks.due("its price", x.price(0), 75);
     }
@@ -225,6 +230,8 @@ public final class TextsTest {
         lawFault("(((((1)))))+(((((((1)))))))", -7, 18);
         lawFault("least[(1),least[(1),least[(1),least[1,least[1,most[1,2]]]]]]", 1, -1);
         lawFault("least[1,least[1,least[1,least[1,least[1,most[1,(2)]]]]]]", -7, 47);
+        lawFault("least[least[least[least[least[most[1,2],2],2],2],2],2]", 1, -1);
+        lawFault("least[least[least[least[least[most[(1),2],2],2],2],2],2]", -7, 35);
     }
 
     private static void work() {
@@ -234,6 +241,8 @@ public final class TextsTest {
         Checks.due("steps", Checks.work(x, " buy 0 ; buy 0;sell 1;later0;week ; "), 3);
         Checks.due("refused", x.told(10), 2);
         Checks.due("again", Checks.work(x, "again 3 [week;again 2 [buy 1;sell 1;];];"), 15);
+        x.undo();
+        Checks.due("six deep", Checks.work(x, "again 1[again 1[again 1[again 1[again 1[again 3[week;];];];];];];"), 3);
         Checks.due("again 0", Checks.work(x, "again 0[week;];again 60[];"), 0);
         Checks.due("the week", x.told(3), 4);
         Checks.due("200 steps, an again too", Checks.work(x, "again 60[week;week;week;week;];"), 199);
