@@ -5,15 +5,21 @@ import java.util.function.LongSupplier;
 final class Checks {
     private static int asked = 0;
     private static int wrong = 0;
+    private static String about = "";
 
     private Checks() {
+    }
+
+    /** What the document says that the checks from now on hold; it is told with what is wrong. */
+    static void about(String words) {
+        about = words;
     }
 
     static void due(String call, long got, long want) {
         asked++;
         if (got != want) {
             wrong++;
-            System.out.println(call + " answered " + got + ", due is " + want);
+            System.out.println((about.isEmpty() ? "" : about + ": ") + call + " answered " + got + ", due is " + want);
         }
     }
 
@@ -73,6 +79,30 @@ final class Checks {
 
     static int book(BoughtMondays x, String text) {
         return x.book(feed(x, text));
+    }
+
+    /** Reads a text: its answer and the place of its fault are as due. */
+    static void reads(BoughtMondays x, String kind, String text, int answer, int place) {
+        due(kind + " '" + text + "'", read(x, kind, text), answer);
+        due("fault() of " + kind + " '" + text + "'", x.fault(), place);
+    }
+
+    /** The same on an object of its own, in a town that is told first. */
+    static void readsIn(String townText, String kind, String text, int answer, int place) {
+        reads(townText.isEmpty() ? new BoughtMondays() : made(townText), kind, text, answer, place);
+    }
+
+    private static int read(BoughtMondays x, String kind, String text) {
+        switch (kind) {
+            case "town":
+                return town(x, text);
+            case "law":
+                return law(x, text);
+            case "work":
+                return work(x, text);
+            default:
+                return book(x, text);
+        }
     }
 
     static BoughtMondays made(String townText) {
