@@ -796,7 +796,12 @@ public final class BoughtMondays {
         }
 
         void expectSign(char sign) {
-            if (flaw == 0 && !takeSign(sign)) {
+            if (flaw != 0) {
+                return;
+            }
+            if (peekSign() == sign) {
+                at++;
+            } else {
                 noteFlaw(CANT_STAND, at);
             }
         }

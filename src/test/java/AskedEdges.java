@@ -40,19 +40,10 @@ final class AskedEdges {
         return values;
     }
 
-    /** Lets so many weeks go by, 199 a work. */
-    static void pass(BoughtMondays x, int weeks) {
-        for (int gone = 0; gone < weeks; gone += 180) {
-            Checks.work(x, "again " + Math.min(60, (weeks - gone) / 3) + "[week;week;week;];"
-                    + Checks.times(weeks - gone < 180 ? (weeks - gone) % 3 : 0, "week;"));
-        }
-        Checks.due("the week", x.told(3), weeks);
-    }
-
     private static void asked() {
         Doc.terms("Asked, nothing stays changed; WEEKS go by as by week (beyond 300, too).");
         BoughtMondays x = Checks.made("person 0 1;person 50 0;duty 2;can 0 0;task 0 60 1;");
-        pass(x, 299);
+        Checks.pass(x, 299);
         Checks.work(x, "buy 1;");
         Checks.due("days, one week to 300", x.ahead(1, 1), 299 * 14 + 13);
         Checks.due("days, one week beyond", x.ahead(2, 1), 299 * 14 + 27);
@@ -66,7 +57,7 @@ final class AskedEdges {
         Checks.due("the week is 300 still", x.told(3), 300);
         Checks.due("bought off still", x.told(4), 2);
         BoughtMondays y = Checks.made("duty 30;");
-        pass(y, 300);
+        Checks.pass(y, 300);
         Checks.due("worth that is lost beyond", y.loses(99), 2970);
         Checks.due("worth of a year", y.year(1, 96, 0, 0, 2), 2880);
         Checks.due("worth that was lost stays", y.told(6), 9000);
@@ -204,8 +195,10 @@ final class AskedEdges {
     private static void giver() {
         Doc.promise(20, "The PERSON of a DUTY by GIVEN; NONE.");
         BoughtMondays x = Checks.made(Checks.times(6, "person 90 0;") + Checks.times(6, "duty 2;") + "can 5 5;can 4 5;");
+        Checks.due("asked first, without given()", x.giver(5), 4);
         givers(x, 2, -1, -1, -1, -1, -1, 4);
         Checks.work(x, "buy 4;");
+        Checks.due("asked first, one has bought off", x.giver(5), 5);
         givers(x, 2, -1, -1, -1, -1, -1, 5);
         Checks.missing(x, "giver(6)", () -> x.giver(6));
         RefusalEdges.edges("giver", "p", row(0), row(0), row(LAST_DUTY));
@@ -415,7 +408,7 @@ final class AskedEdges {
                 + "IllegalArgumentException: bits of no PERSONS.");
         BoughtMondays y = Checks.made(Checks.times(6, "person 0 0;"));
         Checks.due("no days lived", y.share(0, 63, 9999), 0);
-        pass(y, 300);
+        Checks.pass(y, 300);
         Checks.due("9,999 of 12,600", y.share(5, 63, 9999), 1666);
         Checks.due("9,995", y.share(5, 63, 9995), 1665);
         Checks.due("9,996", y.share(5, 63, 9996), 1666);
@@ -512,7 +505,7 @@ final class AskedEdges {
         Checks.work(x, "buy 0;week;");
         Checks.due("all twelve", x.missed(), 4095);
         Checks.due("without tasks", new BoughtMondays().missed(), 0);
-        RefusalEdges.leavesAll("missed()", y -> { }, y -> y.missed(), 0);
+        RefusalEdges.leavesAll("missed()", y -> { }, y -> y.missed(), 5);
     }
 
     private static void due() {
@@ -533,6 +526,9 @@ final class AskedEdges {
         Checks.law(y, "5");
         Checks.work(y, "buy 0;buy 1;");
         Checks.due("one coin too few, and none", y.due(), 11);
+        BoughtMondays full = Checks.made("person 500 0;" + Checks.times(12, "task 0 0 41;"));
+        Checks.work(full, "buy 0;");
+        Checks.due("twelve tasks", full.due(), 492);
         Checks.due("without persons", new BoughtMondays().due(), 0);
         RefusalEdges.leavesAll("due()", z -> { }, z -> z.due(), 0);
     }
@@ -628,6 +624,8 @@ final class AskedEdges {
         pair("crowd, all are done", x.crowd(0), x.crowd(1), -1, -1);
         BoughtMondays none = Checks.made("person 0 0;");
         pair("crowd without tasks", none.crowd(0), none.crowd(1), -1, -1);
+        BoughtMondays one = Checks.made("person 0 0;task 0 7 0;");
+        pair("crowd of one", one.crowd(0), one.crowd(1), 7, 1);
         BoughtMondays full = Checks.made("person 0 0;" + Checks.times(12, "task 0 60 0;"));
         pair("crowd of twelve", full.crowd(0), full.crowd(1), 60, 12);
         RefusalEdges.edges("crowd", "a", row(0), row(0), row(1));
@@ -666,7 +664,7 @@ final class AskedEdges {
         Checks.work(x, "buy 0;week;buy 0;week;");
         Checks.due("those that lie behind do not count", x.clear(0, 20), all - (1 << 16) - (1 << 17));
         BoughtMondays y = Checks.made("person 0 0;task 0 60 1;");
-        pass(y, 60);
+        Checks.pass(y, 60);
         Checks.due("on Monday 60", y.clear(0, 20), all - 1);
         Checks.work(y, "week;");
         Checks.due("beyond Monday 60", y.clear(0, 20), all);

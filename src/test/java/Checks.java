@@ -112,6 +112,16 @@ final class Checks {
         return x;
     }
 
+    /** Lets so many weeks go by, 199 a work. */
+    static void pass(BoughtMondays x, int weeks) {
+        int week = x.told(3);
+        for (int gone = 0; gone < weeks; gone += 199) {
+            int n = Math.min(199, weeks - gone);
+            work(x, "again " + n / 4 + "[week;week;week;week;];" + times(n % 4, "week;"));
+        }
+        due("weeks that went by", x.told(3) - week, weeks);
+    }
+
     static String times(int n, String part) {
         return part.repeat(n);
     }

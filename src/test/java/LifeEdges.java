@@ -32,19 +32,6 @@ final class LifeEdges {
         Checks.due("steps refused of " + text, x.told(10), refused);
     }
 
-    /** Lets so many weeks go by, 199 a work. */
-    private static void pass(BoughtMondays x, int weeks) {
-        int left = weeks;
-        while (left > 0) {
-            int rounds = Math.min(49, left / 4);
-            int rest = Math.min(3, left - 4 * rounds);
-            int n = 4 * rounds + rest;
-            Checks.due("weeks", Checks.work(x, "again " + rounds + "[week;week;week;week;];"
-                    + Checks.times(rest, "week;")), n);
-            left -= n;
-        }
-    }
-
     private static void beginning() {
         Doc.terms("It is WEEK 0 at first; MONDAY M is that of WEEK M.");
         BoughtMondays x = Checks.made("person 90 0;task 0 0 1;task 0 2 1;task 0 60 1;");
@@ -55,7 +42,7 @@ final class LifeEdges {
             Checks.due("done by week " + week, x.told(5), done[week]);
             works(x, "week;", 1, 0);
         }
-        pass(x, 55);
+        Checks.pass(x, 55);
         Checks.due("the week", x.told(3), 60);
         Checks.due("Monday 60 is not over", x.told(5), 3);
         works(x, "week;", 1, 0);
@@ -189,7 +176,7 @@ final class LifeEdges {
         Checks.due("a task of this week", x.task(0, 1), 3);
         works(x, "week;later 2;week;later 0;", 2, 2);
         Checks.due("done", x.task(0, 3), 1);
-        pass(x, 56);
+        Checks.pass(x, 56);
         Checks.due("the week", x.told(3), 60);
         works(x, "later 1;", 0, 1);
         works(x, "buy 0;week;later 1;", 2, 1);
@@ -200,7 +187,7 @@ final class LifeEdges {
     private static void lastWeek() {
         Doc.terms("week (REFUSED in WEEK 300)");
         BoughtMondays x = Checks.made("person 500 1;duty 3;");
-        pass(x, 299);
+        Checks.pass(x, 299);
         Checks.due("the week", x.told(3), 299);
         works(x, "week;", 1, 0);
         Checks.due("the last week", x.told(3), 300);
@@ -226,7 +213,7 @@ final class LifeEdges {
         Checks.due("all of this Monday", x.told(5), 7);
         Checks.due("no fines", x.person(0, 6), 0);
         Checks.due("not skipped", x.person(0, 3), 0);
-        pass(x, 15);
+        Checks.pass(x, 15);
         Checks.due("16 weeks", x.person(0, 0), 980);
         works(x, "week;", 1, 0);
         Checks.due("999 at most", x.person(0, 0), 999);
@@ -255,7 +242,7 @@ final class LifeEdges {
         Checks.due("and has paid nothing", x.person(1, 6), 0);
         Checks.due("nor skipped", x.person(1, 3), 0);
         Checks.due("missed", x.missed(), 5);
-        pass(x, 9);
+        Checks.pass(x, 9);
         Checks.due("never done", x.told(5), 2 + 8);
         Checks.due("never paid again", x.person(0, 6), 12);
         BoughtMondays y = Checks.made("person 16 0;person 5 0;person 18 0;"
@@ -351,7 +338,7 @@ final class LifeEdges {
                 + Checks.times(12, "task 5 60 1;"));
         Checks.book(x, "0 1;1 1;2 1;3 1;4 1;5 1;");
         toldDue(x, 6, 6, 12, 0, 0, 0, 0, 3000, 0, 6, 0);
-        pass(x, 300);
+        Checks.pass(x, 300);
         Checks.law(x, "99");
         works(x, "buy 0;buy 1;buy 2;buy 3;buy 4;buy 5;buy 5;", 6, 1);
         toldDue(x, 6, 6, 12, 300, 63, 4095, 54000, 5400, 12600, 6, 1);
@@ -523,6 +510,50 @@ final class LifeEdges {
         Checks.due("undo(): nothing was to be undone then", x.undo(), -1);
         Checks.due("restore()", x.restore(), -1);
         sixteen();
+        fullTown();
+    }
+
+    /** All rows of a full town come back, and works that were overwritten behind the image, too. */
+    private static void fullTown() {
+        StringBuilder town = new StringBuilder();
+        for (int i = 0; i < 6; i++) {
+            town.append("person ").append(490 + i).append(' ').append(i).append(";duty ").append(i + 1);
+            town.append(";task ").append(i).append(" 0 ").append(i + 1).append(";task ").append(i).append(" 9 7;");
+        }
+        BoughtMondays x = Checks.made(town.toString());
+        String first = rows(x);
+        Checks.work(x, "buy 0;buy 1;buy 2;buy 3;buy 4;buy 5;later 11;later 10;week;buy 5;");
+        String second = rows(x);
+        Checks.work(x, "week;later 11;later 9;buy 4;buy 0;");
+        String third = rows(x);
+        x.image();
+        x.undo();
+        Checks.holds("undone once", rows(x).equals(second));
+        x.undo();
+        Checks.holds("undone twice", rows(x).equals(first));
+        Checks.work(x, "week;week;");
+        Checks.work(x, "week;week;");
+        Checks.work(x, "week;week;");
+        x.restore();
+        Checks.holds("restored", rows(x).equals(third));
+        Checks.due("undo()", x.undo(), 1);
+        Checks.holds("undone once", rows(x).equals(second));
+        Checks.due("undo()", x.undo(), 0);
+        Checks.holds("undone twice", rows(x).equals(first));
+    }
+
+    private static String rows(BoughtMondays x) {
+        StringBuilder seen = new StringBuilder();
+        seen.append(x.told(3)).append(' ').append(x.told(5)).append(' ').append(x.told(6));
+        for (int p = 0; p < 6; p++) {
+            for (int what : new int[] {0, 2, 3, 5, 6}) {
+                seen.append(' ').append(x.person(p, what));
+            }
+        }
+        for (int t = 0; t < 12; t++) {
+            seen.append(' ').append(x.task(t, 1));
+        }
+        return seen.toString();
     }
 
     private static void restoredDue(BoughtMondays x, int week, int works, int bought, int coins, int days) {

@@ -13,7 +13,7 @@ import java.util.function.ToLongFunction;
  */
 final class RefusalEdges {
     private static final String TOWN = "person 60 5;person 9 2;person 200 0;duty 10;duty 4;can 0 0;can 1 0;can 1 1;"
-            + "can 2 1;task 0 1 7;task 0 4 9;task 1 2 30;";
+            + "can 2 1;task 0 0 7;task 0 4 9;task 2 1 3;";
     static final int PERSONS = 3;
     static final int DUTIES = 2;
     static final int TASKS = 3;
@@ -63,9 +63,9 @@ final class RefusalEdges {
         Checks.book(x, "0 20;1 19;");
         Checks.work(x, "buy 0;week;");
         x.image();
-        Checks.work(x, "buy 2;later 1;sell 1;");
+        Checks.work(x, "buy 2;later 1;sell 1;week;");
         x.image();
-        Checks.work(x, "buy 1;sell 0;");
+        Checks.work(x, "buy 1;buy 2;sell 0;");
         answer(x, y -> y.price(PERSONS));
         answer(x, y -> y.price(-1));
         answer(x, y -> y.told(11));

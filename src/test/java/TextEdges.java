@@ -1,3 +1,6 @@
+import java.util.ArrayList;
+import java.util.List;
+
 /** The edges of the tape and of the four texts: Terms from TOWN to FAULTS, promises 1 to 7. */
 final class TextEdges {
     private static final String PERSON = "person 0 0;";
@@ -305,6 +308,8 @@ final class TextEdges {
         Checks.readsIn("", "work", "weekweek;", -9, 0);
         Checks.readsIn("", "work", "wee;", -9, 0);
         Checks.readsIn("", "work", "weeks;", -9, 0);
+        Checks.readsIn("", "work", "weeka;", -9, 0);
+        Checks.readsIn("", "work", "weekz;", -9, 0);
         Checks.readsIn("", "work", "Week;", -9, 0);
         Checks.readsIn("", "work", "weeK;", -9, 0);
         Checks.readsIn("", "work", "again1[week;];", 1, -1);
@@ -373,6 +378,12 @@ final class TextEdges {
         Checks.feed(x, "week;");
         Checks.due("work(2): a word that is none", x.work(2), -9);
         Checks.due("fault()", x.fault(), 0);
+        Checks.feed(x, "weeks");
+        Checks.due("law(4): a word that is one", x.law(4), 1);
+        Checks.feed(x, "9999");
+        Checks.due("law(3): a number that is one", x.law(3), 1);
+        Checks.feed(x, "9 + 9");
+        Checks.due("law(2): a blank at the end", x.law(2), 1);
 
         Doc.terms("2 a number that is none such (a P twice in a BOOK)");
         Checks.readsIn("", "town", "duty 0;", -8, 5);
@@ -495,6 +506,8 @@ final class TextEdges {
         Checks.due("a fault", x.town(3), -9);
         Checks.due("the tape is empty behind a fault, too", x.count(1), 0);
 
+        smallerTowns();
+
         Doc.promise(3, "(WEEK 0; no LAW, BOOK, IMAGES, nothing to undo)");
         BoughtMondays y = lived();
         Checks.due("town", Checks.town(y, "person 50 3;person 9 1;duty 2;task 0 1 1;"), 2);
@@ -528,6 +541,64 @@ final class TextEdges {
 
         Doc.promise(3, "IllegalArgumentException: n is not 0 to the TAPE's bytes (it stays).");
         textLengths("town", 600);
+    }
+
+    /** Nothing of a full town that has been lived in is left in a smaller one behind it. */
+    private static void smallerTowns() {
+        StringBuilder full = new StringBuilder();
+        for (int i = 0; i < 6; i++) {
+            full.append("person 500 30;duty 30;task ").append(i).append(" 0 9;task ").append(i).append(" 2 9;");
+        }
+        for (int p = 0; p < 6; p++) {
+            full.append("can ").append(p).append(" 0;can ").append(p).append(' ').append(p).append(';');
+        }
+        for (String small : new String[] {"", "duty 2;", PERSON, "person 9 1;duty 2;", "person 9 1;task 0 5 1;",
+            "person 9 1;person 8 2;duty 2;duty 3;can 0 0;can 0 1;can 1 1;task 1 2 3;"}) {
+            BoughtMondays x = Checks.made(full.toString());
+            Checks.work(x, "buy 0;buy 1;later 1;week;");
+            Checks.work(x, "buy 0;buy 5;");
+            Checks.book(x, "0 6;1 6;");
+            Checks.due("a full town answers all that is asked", seen(x).size(), 202);
+            Checks.due("town " + small, Checks.town(x, small), small.split("person", -1).length - 1);
+            if (small.equals(PERSON)) {
+                Checks.due("no task is left", x.next(0, 0), -1);
+                Checks.due("no fine is left", x.debt(0), 0);
+                Checks.due("no Monday is taken", x.clear(0, 3), 7);
+                Checks.law(x, "0");
+                Checks.work(x, "buy 0;");
+                Checks.due("nothing is due", x.due(), 0);
+                Checks.town(x, small);
+            }
+            String due = seen(Checks.made(small + " ")).toString();
+            Checks.holds("the town is like new: " + due, due.equals(seen(x).toString()));
+        }
+    }
+
+    private static List<Integer> seen(BoughtMondays x) {
+        List<Integer> all = new ArrayList<>();
+        for (int what = 0; what <= 10; what++) {
+            all.add(x.told(what));
+        }
+        for (int p = 0; p < x.told(0); p++) {
+            for (int what = 0; what <= 6; what++) {
+                all.add(x.person(p, what));
+            }
+            all.addAll(List.of(x.price(p), x.next(p, 0), x.debt(p), x.clear(p, 20), x.skips(p, 5, 1), x.spare(p, 9),
+                    x.back(p), x.share(p, (1 << x.told(0)) - 1, 50)));
+        }
+        for (int d = 0; d < x.told(1); d++) {
+            all.addAll(List.of(x.duty(d, 0), x.duty(d, 1), x.giver(d)));
+        }
+        for (int t = 0; t < x.told(2); t++) {
+            all.addAll(List.of(x.task(t, 0), x.task(t, 1), x.task(t, 2), x.task(t, 3), x.span(3, 9, 9, 9, 9, 2, t)));
+        }
+        for (int what = 0; what <= 1; what++) {
+            all.addAll(List.of(x.youngest(what), x.cheapest(what), x.crowd(what), x.richest(what), x.ahead(9, what)));
+        }
+        all.addAll(List.of(x.left(), x.given(), x.missed(), x.due(), x.lone(), x.rush(), x.loses(9),
+                x.stay((1 << x.told(1)) - 1), x.ahead(9, 2), x.year(3, 9, 9, 9, 0), x.year(3, 9, 9, 9, 2),
+                x.year(3, 9, 9, 9, 3), x.year(3, 9, 9, 9, 4)));
+        return all;
     }
 
     /** An object with a law, a book, images, works, refused steps and refused calls. */
@@ -661,6 +732,10 @@ final class TextEdges {
         Checks.reads(y, "work", "x", -9, 0);
         Checks.reads(y, "work", "", 0, -1);
         Checks.reads(y, "work", "", -20, -1);
+        for (int i = 15; i >= 0; i--) {
+            Checks.due("undo()", y.undo(), i);
+            Checks.due("the week", y.told(3), i);
+        }
     }
 
     private static void book() {

@@ -31,6 +31,15 @@ final class YearEdges {
         Checks.due("skips(" + person + ", " + n + ", 1)", x.skips(person, n, 1), set);
     }
 
+    /** A law that costs nothing to this person, whatever was asked ahead. */
+    private static void skipBy(BoughtMondays x, int person, String law) {
+        Checks.due("law " + law, Checks.law(x, "(" + law + ") * 99"), 1);
+        x.would(300, 5, 999, 999, 30, 6, 12, 5);
+        skip(x, person, 10, 1023);
+        x.price(1 - person);
+        skip(x, person, 10, 1023);
+    }
+
     private static BoughtMondays lawful(String town, String law) {
         BoughtMondays x = Checks.made(town);
         Checks.due("law " + law, Checks.law(x, law), 1);
@@ -70,20 +79,33 @@ final class YearEdges {
         skip(x, 0, 10, 3);
         Checks.work(x, "buy 1;");
         Checks.due("person 1 has bought off", x.told(4), 2);
-        Checks.law(x, "sold * 99");
-        skip(x, 0, 10, 1023);
-        Checks.law(x, "(needed - 1) * 99");
-        skip(x, 0, 10, 1023);
-        Checks.law(x, "tasks * 99 + person * 99 + wage * 99");
-        skip(x, 0, 10, 1023);
+        skipBy(x, 0, "sold * sold");
+        skipBy(x, 1, "sold * sold");
+        skipBy(x, 0, "(needed - 1) * (needed - 1)");
+        skipBy(x, 1, "needed");
+        skipBy(x, 0, "tasks * tasks + person * person + wage * wage");
+        skipBy(x, 1, "(person - 1) * (person - 1)");
+        Checks.law(x, "person * 99");
         skip(x, 1, 10, 0);
+        BoughtMondays last = Checks.made("person 10 0;person 10 0;duty 1;duty 1;can 1 0;can 1 1;");
+        skipBy(last, 1, "(needed - 2) * (needed - 2)");
+        skipBy(last, 0, "needed");
         // coins fall as they are paid, 10, 9, 7, 3, and the price grows by that: 1, 2, 4, 8
         Checks.law(x, "11 - coins");
         skip(x, 0, 3, 7);
         skip(x, 0, 4, 7);
         skip(x, 0, 10, 7);
+        // what was skipped by now counts from the first on
+        Checks.work(x, "sell 1;");
+        Checks.law(x, "0");
+        Checks.work(x, "buy 0;week;buy 0;week;");
+        Checks.law(x, "skipped * 2");
+        skip(x, 0, 10, 3);
+        BoughtMondays two = lawful("person 0 0;person 0 5;", "(wage - 5) * (wage - 5) + (person - 1) * (person - 1) + 5");
+        skip(two, 1, 10, 2 + 8 + 32 + 128 + 512);
+        skip(two, 0, 10, 0);
         BoughtMondays y = lawful("person 9 0;", "most[0, week - 300]");
-        AskedEdges.pass(y, 300);
+        Checks.pass(y, 300);
         skip(y, 0, 4, 15);
         skip(y, 0, 5, 15);
     }
@@ -98,7 +120,7 @@ final class YearEdges {
         // on those that are bought off nothing is earned
         skip(lawful("person 6 30;", "6"), 0, 2, 1);
         BoughtMondays rich = lawful("person 500 30;", "99");
-        AskedEdges.pass(rich, 20);
+        Checks.pass(rich, 20);
         Checks.due("999 coins", rich.person(0, 0), 999);
         skip(rich, 0, 10, 1023);
         Checks.law(rich, "coins / 999 * 99");
