@@ -5,7 +5,7 @@ import java.util.function.LongSupplier;
 final class Checks {
     private static int asked = 0;
     private static int wrong = 0;
-    private static String about = "";
+    private static volatile String about = "";
 
     private Checks() {
     }
@@ -13,6 +13,21 @@ final class Checks {
     /** What the document says that the checks from now on hold; it is told with what is wrong. */
     static void about(String words) {
         about = words;
+    }
+
+    /** A call that does not end is a failure, not a wait: the test is stopped behind so many seconds. */
+    static void within(int seconds) {
+        Thread watch = new Thread(() -> {
+            try {
+                Thread.sleep(seconds * 1000L);
+            } catch (InterruptedException e) {
+                return;
+            }
+            System.out.println(about + ": not ended within " + seconds + " seconds");
+            Runtime.getRuntime().halt(1);
+        });
+        watch.setDaemon(true);
+        watch.start();
     }
 
     static void due(String call, long got, long want) {

@@ -6,6 +6,7 @@ public final class EdgesTest {
     }
 
     public static void main(String[] args) throws Exception {
+        Checks.within(300);
         Doc.open(Path.of(args[1], "DOC.md"));
         TextEdges.run();
         LawEdges.run();
