@@ -35,7 +35,7 @@ public final class BoughtMondays {
     private final Giving giving = new Giving(town);
     private final SkipSearch skipSearch = new SkipSearch(town, law);
     private final Year trialYear = new Year(trial);
-    private final Shelf works = new Shelf(MAX_WORKS);
+    private final Shelf works = new Shelf();
     private final Shelf[] images = new Shelf[MAX_IMAGES];
     private int imageCount = 0;
     private int missingRefusals = 0;
@@ -43,8 +43,7 @@ public final class BoughtMondays {
 
     public BoughtMondays() {
         for (int i = 0; i < MAX_IMAGES; i++) {
-            // one row more than works: the state itself lies on top of the works
-            images[i] = new Shelf(MAX_WORKS + 1);
+            images[i] = new Shelf();
         }
         now.begin();
     }
@@ -94,7 +93,7 @@ public final class BoughtMondays {
     public int work(int n) throws IllegalArgumentException {
         needText(n, MAX_WORK);
         text.beginReading(n);
-        if (works.isFull()) {
+        if (works.height >= MAX_WORKS) {
             return TOO_MANY_WORKS;
         }
         plan.readFrom(text, town);
@@ -1632,25 +1631,18 @@ public final class BoughtMondays {
 
     /** A stack of saved lives. */
     private static final class Shelf {
-        private final int capacity;
-        private final int[] rows;
-        int height = 0;
+        /** One more than works: in an image the state itself lies on top of the works. */
+        private static final int MAX_HEIGHT = MAX_WORKS + 1;
 
-        Shelf(int capacity) {
-            this.capacity = capacity;
-            this.rows = new int[capacity * Life.SAVED];
-        }
+        private final int[] rows = new int[MAX_HEIGHT * Life.SAVED];
+        int height = 0;
 
         void drop() {
             height = 0;
         }
 
-        boolean isFull() {
-            return height >= capacity;
-        }
-
         void push(Life life) {
-            if (height < capacity) {
+            if (height < MAX_HEIGHT) {
                 life.saveTo(rows, height * Life.SAVED);
                 height++;
             }
@@ -1666,7 +1658,7 @@ public final class BoughtMondays {
         }
 
         void copyFrom(Shelf other) {
-            height = Math.min(capacity, other.height);
+            height = other.height;
             System.arraycopy(other.rows, 0, rows, 0, height * Life.SAVED);
         }
     }
